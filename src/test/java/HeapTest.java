@@ -12,22 +12,28 @@ public final class HeapTest {
         leastOfSmallRings();
         heapsOfTheGreatestRing();
         noneForSomeHeap();
+        theGreatestCount();
         wrongNumbers();
         due.end();
     }
 
-    private static int plainFirst(int n, int heap, int k) {
+    /** The first ones of a ring of n that k puts out, as bits. */
+    private static int gone(int n, int many, int k) {
         List<Integer> left = new ArrayList<>();
         for (int p = 0; p < n; p++) {
             left.add(p);
         }
-        int goneBits = 0;
+        int bits = 0;
         int at = 0;
-        for (int i = 0; i < Integer.bitCount(heap); i++) {
+        for (int i = 0; i < many; i++) {
             at = (at + k - 1) % left.size();
-            goneBits |= 1 << left.remove(at);
+            bits |= 1 << left.remove(at);
         }
-        return goneBits == heap ? 1 : 0;
+        return bits;
+    }
+
+    private static int plainFirst(int n, int heap, int k) {
+        return gone(n, Integer.bitCount(heap), k) == heap ? 1 : 0;
     }
 
     private static int plainLeast(int n, int heap) {
@@ -78,6 +84,11 @@ public final class HeapTest {
             due.is("least(18, " + heap + ")", x.least(18, heap), want);
         }
         due.holds("some heap has no least count", nones > 0);
+    }
+
+    private static void theGreatestCount() {
+        due.is("least(20, what 10000 puts out)", x.least(20, gone(20, 10, 10000)), 10000);
+        due.is("least(20, what 10001 puts out)", x.least(20, gone(20, 10, 10001)), CountedOut.NONE);
     }
 
     private static void wrongNumbers() {
