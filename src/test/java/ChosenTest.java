@@ -1,7 +1,6 @@
 /** Promises 16 and 17: may, can. Rings are gone through with every choice, people by name. */
 public final class ChosenTest {
     private static final Due due = new Due();
-    private static final CountedOut x = new CountedOut();
 
     public static void main(String[] args) {
         mayOfSmallRings();
@@ -10,6 +9,11 @@ public final class ChosenTest {
         canOfTheGreatestRing();
         wrongNumbers();
         due.end();
+    }
+
+    /** An object is promised for 512 calls alone, so that each question here is put to a new one. */
+    private static CountedOut fresh() {
+        return new CountedOut();
     }
 
     private static int[] whole(int n) {
@@ -65,7 +69,7 @@ public final class ChosenTest {
     private static void mayOfSmallRings() {
         for (int n = 1; n <= 6; n++) {
             for (int set = 1; set <= 63; set++) {
-                due.is("may(" + n + ", " + set + ")", x.may(n, set), plainMay(whole(n), set));
+                due.is("may(" + n + ", " + set + ")", fresh().may(n, set), plainMay(whole(n), set));
             }
         }
     }
@@ -74,7 +78,7 @@ public final class ChosenTest {
         for (int n = 7; n <= 12; n++) {
             for (int set = 1; set <= 63; set++) {
                 if (Integer.bitCount(set) <= 2) {
-                    due.is("may(" + n + ", " + set + ")", x.may(n, set), plainMay(whole(n), set));
+                    due.is("may(" + n + ", " + set + ")", fresh().may(n, set), plainMay(whole(n), set));
                 }
             }
         }
@@ -84,7 +88,7 @@ public final class ChosenTest {
         for (int n = 1; n <= 5; n++) {
             for (int own = 1; own <= 63; own++) {
                 for (int foe = 1; foe <= 63; foe++) {
-                    due.is("can(" + n + ", " + own + ", " + foe + ")", x.can(n, own, foe), plainCan(n, own, foe));
+                    due.is("can(" + n + ", " + own + ", " + foe + ")", fresh().can(n, own, foe), plainCan(n, own, foe));
                 }
             }
         }
@@ -95,7 +99,7 @@ public final class ChosenTest {
         for (int n = 6; n <= 12; n++) {
             for (int own : sets) {
                 for (int foe : sets) {
-                    due.is("can(" + n + ", " + own + ", " + foe + ")", x.can(n, own, foe), plainCan(n, own, foe));
+                    due.is("can(" + n + ", " + own + ", " + foe + ")", fresh().can(n, own, foe), plainCan(n, own, foe));
                 }
             }
         }
@@ -103,15 +107,15 @@ public final class ChosenTest {
 
     private static void wrongNumbers() {
         for (int n : new int[] {0, -1, 13, Integer.MIN_VALUE, Integer.MAX_VALUE}) {
-            due.is("may(" + n + ", 1)", x.may(n, 1), CountedOut.BAD);
-            due.is("can(" + n + ", 1, 1)", x.can(n, 1, 1), CountedOut.BAD);
+            due.is("may(" + n + ", 1)", fresh().may(n, 1), CountedOut.BAD);
+            due.is("can(" + n + ", 1, 1)", fresh().can(n, 1, 1), CountedOut.BAD);
         }
         for (int set : new int[] {0, -1, 64, Integer.MIN_VALUE, Integer.MAX_VALUE}) {
-            due.is("may(5, " + set + ")", x.may(5, set), CountedOut.BAD);
-            due.is("can(5, " + set + ", 1)", x.can(5, set, 1), CountedOut.BAD);
-            due.is("can(5, 1, " + set + ")", x.can(5, 1, set), CountedOut.BAD);
+            due.is("may(5, " + set + ")", fresh().may(5, set), CountedOut.BAD);
+            due.is("can(5, " + set + ", 1)", fresh().can(5, set, 1), CountedOut.BAD);
+            due.is("can(5, 1, " + set + ")", fresh().can(5, 1, set), CountedOut.BAD);
         }
-        due.is("may(1, 63)", x.may(1, 63), 1);
-        due.is("can(1, 63, 63)", x.can(1, 63, 63), 1);
+        due.is("may(1, 63)", fresh().may(1, 63), 1);
+        due.is("can(1, 63, 63)", fresh().can(1, 63, 63), 1);
     }
 }

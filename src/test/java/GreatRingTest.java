@@ -5,7 +5,6 @@ import java.util.List;
 public final class GreatRingTest {
     private static final long GREATEST = 1000000000000L;
     private static final Due due = new Due();
-    private static final CountedOut x = new CountedOut();
 
     public static void main(String[] args) {
         smallRingsAreGoneThrough();
@@ -15,6 +14,11 @@ public final class GreatRingTest {
         countOneGoesInOrder();
         wrongNumbers();
         due.end();
+    }
+
+    /** An object is promised for 512 calls alone, so that each question here is put to a new one. */
+    private static CountedOut fresh() {
+        return new CountedOut();
     }
 
     private static List<Integer> order(int n, int k) {
@@ -48,10 +52,10 @@ public final class GreatRingTest {
         List<Integer> gone = order(n, k);
         for (int j = 1; j <= n; j++) {
             int place = gone.get(j - 1);
-            due.is("goes(" + n + ", " + k + ", " + j + ")", x.goes(n, k, j), place);
-            due.is("turn(" + n + ", " + k + ", " + place + ")", x.turn(n, k, place), j);
+            due.is("goes(" + n + ", " + k + ", " + j + ")", fresh().goes(n, k, j), place);
+            due.is("turn(" + n + ", " + k + ", " + place + ")", fresh().turn(n, k, place), j);
         }
-        due.is("last(" + n + ", " + k + ")", x.last(n, k), gone.get(n - 1));
+        due.is("last(" + n + ", " + k + ")", fresh().last(n, k), gone.get(n - 1));
     }
 
     private static void lastByTheSlowRule() {
@@ -60,7 +64,7 @@ public final class GreatRingTest {
             for (int n = 2; n <= 300000; n++) {
                 last = (last + k) % n;
                 if (n % 9973 == 0 || n == 300000) {
-                    due.is("last(" + n + ", " + k + ")", x.last(n, k), last);
+                    due.is("last(" + n + ", " + k + ")", fresh().last(n, k), last);
                 }
             }
         }
@@ -68,9 +72,9 @@ public final class GreatRingTest {
 
     private static void lastOfCountTwo() {
         for (long n = 1; n <= GREATEST; n = n * 3 + 1) {
-            due.is("last(" + n + ", 2)", x.last(n, 2), 2 * (n - Long.highestOneBit(n)));
+            due.is("last(" + n + ", 2)", fresh().last(n, 2), 2 * (n - Long.highestOneBit(n)));
         }
-        due.is("last(greatest, 2)", x.last(GREATEST, 2), 2 * (GREATEST - Long.highestOneBit(GREATEST)));
+        due.is("last(greatest, 2)", fresh().last(GREATEST, 2), 2 * (GREATEST - Long.highestOneBit(GREATEST)));
     }
 
     private static void goesAndTurnUndoOneAnother() {
@@ -81,40 +85,40 @@ public final class GreatRingTest {
                     if (j < 1 || j > n) {
                         continue;
                     }
-                    long place = x.goes(n, k, j);
+                    long place = fresh().goes(n, k, j);
                     String call = "(" + n + ", " + k + ", " + j + ")";
                     due.holds("goes" + call + " is a place", place >= 0 && place < n);
-                    due.is("turn of goes" + call, x.turn(n, k, place), j);
+                    due.is("turn of goes" + call, fresh().turn(n, k, place), j);
                 }
-                due.is("goes(" + n + ", " + k + ", n)", x.goes(n, k, n), x.last(n, k));
-                due.is("goes(" + n + ", " + k + ", 1)", x.goes(n, k, 1), (k - 1) % n);
+                due.is("goes(" + n + ", " + k + ", n)", fresh().goes(n, k, n), fresh().last(n, k));
+                due.is("goes(" + n + ", " + k + ", 1)", fresh().goes(n, k, 1), (k - 1) % n);
             }
         }
     }
 
     private static void countOneGoesInOrder() {
-        due.is("goes(greatest, 1, 1)", x.goes(GREATEST, 1, 1), 0);
-        due.is("goes(greatest, 1, greatest)", x.goes(GREATEST, 1, GREATEST), GREATEST - 1);
-        due.is("turn(greatest, 1, 0)", x.turn(GREATEST, 1, 0), 1);
-        due.is("last(greatest, 1)", x.last(GREATEST, 1), GREATEST - 1);
+        due.is("goes(greatest, 1, 1)", fresh().goes(GREATEST, 1, 1), 0);
+        due.is("goes(greatest, 1, greatest)", fresh().goes(GREATEST, 1, GREATEST), GREATEST - 1);
+        due.is("turn(greatest, 1, 0)", fresh().turn(GREATEST, 1, 0), 1);
+        due.is("last(greatest, 1)", fresh().last(GREATEST, 1), GREATEST - 1);
     }
 
     private static void wrongNumbers() {
         for (long n : new long[] {0, -1, GREATEST + 1, Long.MIN_VALUE, Long.MAX_VALUE}) {
-            due.is("goes of a ring of " + n, x.goes(n, 2, 1), CountedOut.BAD);
-            due.is("turn of a ring of " + n, x.turn(n, 2, 0), CountedOut.BAD);
-            due.is("last of a ring of " + n, x.last(n, 2), CountedOut.BAD);
+            due.is("goes of a ring of " + n, fresh().goes(n, 2, 1), CountedOut.BAD);
+            due.is("turn of a ring of " + n, fresh().turn(n, 2, 0), CountedOut.BAD);
+            due.is("last of a ring of " + n, fresh().last(n, 2), CountedOut.BAD);
         }
         for (int k : new int[] {0, -1, 1001, Integer.MIN_VALUE, Integer.MAX_VALUE}) {
-            due.is("goes by " + k, x.goes(5, k, 1), CountedOut.BAD);
-            due.is("turn by " + k, x.turn(5, k, 0), CountedOut.BAD);
-            due.is("last by " + k, x.last(5, k), CountedOut.BAD);
+            due.is("goes by " + k, fresh().goes(5, k, 1), CountedOut.BAD);
+            due.is("turn by " + k, fresh().turn(5, k, 0), CountedOut.BAD);
+            due.is("last by " + k, fresh().last(5, k), CountedOut.BAD);
         }
         for (long v : new long[] {-1, Long.MIN_VALUE, Long.MAX_VALUE, 6}) {
-            due.is("goes(5, 2, " + v + ")", x.goes(5, 2, v), CountedOut.BAD);
-            due.is("turn(5, 2, " + v + ")", x.turn(5, 2, v), CountedOut.BAD);
+            due.is("goes(5, 2, " + v + ")", fresh().goes(5, 2, v), CountedOut.BAD);
+            due.is("turn(5, 2, " + v + ")", fresh().turn(5, 2, v), CountedOut.BAD);
         }
-        due.is("goes(5, 2, 0)", x.goes(5, 2, 0), CountedOut.BAD);
-        due.is("turn(5, 2, 5)", x.turn(5, 2, 5), CountedOut.BAD);
+        due.is("goes(5, 2, 0)", fresh().goes(5, 2, 0), CountedOut.BAD);
+        due.is("turn(5, 2, 5)", fresh().turn(5, 2, 5), CountedOut.BAD);
     }
 }

@@ -5,7 +5,6 @@ import java.util.List;
 public final class HeapTest {
     private static final int COUNT_MOST = 10000;
     private static final Due due = new Due();
-    private static final CountedOut x = new CountedOut();
 
     public static void main(String[] args) {
         allHeapsOfSmallRings();
@@ -15,6 +14,11 @@ public final class HeapTest {
         theGreatestCount();
         wrongNumbers();
         due.end();
+    }
+
+    /** An object is promised for 512 calls alone, so that each question here is put to a new one. */
+    private static CountedOut fresh() {
+        return new CountedOut();
     }
 
     /** The first ones of a ring of n that k puts out, as bits. */
@@ -50,7 +54,8 @@ public final class HeapTest {
         for (int n = 2; n <= 9; n++) {
             for (int heap = 1; heap < (1 << n) - 1; heap++) {
                 for (int k : counts) {
-                    due.is("first(" + n + ", " + heap + ", " + k + ")", x.first(n, heap, k), plainFirst(n, heap, k));
+                    String call = "first(" + n + ", " + heap + ", " + k + ")";
+                    due.is(call, fresh().first(n, heap, k), plainFirst(n, heap, k));
                 }
             }
         }
@@ -59,7 +64,7 @@ public final class HeapTest {
     private static void leastOfSmallRings() {
         for (int n = 2; n <= 7; n++) {
             for (int heap = 1; heap < (1 << n) - 1; heap++) {
-                due.is("least(" + n + ", " + heap + ")", x.least(n, heap), plainLeast(n, heap));
+                due.is("least(" + n + ", " + heap + ")", fresh().least(n, heap), plainLeast(n, heap));
             }
         }
     }
@@ -67,12 +72,12 @@ public final class HeapTest {
     private static void heapsOfTheGreatestRing() {
         int all = (1 << 20) - 1;
         for (int p = 0; p < 20; p++) {
-            due.is("least(20, only " + p + ")", x.least(20, 1 << p), p + 1);
+            due.is("least(20, only " + p + ")", fresh().least(20, 1 << p), p + 1);
             int allButOne = all ^ 1 << p;
-            due.is("least(20, all but " + p + ")", x.least(20, allButOne), plainLeast(20, allButOne));
+            due.is("least(20, all but " + p + ")", fresh().least(20, allButOne), plainLeast(20, allButOne));
         }
         for (int k = 1; k <= COUNT_MOST; k += 333) {
-            due.is("first(20, 1023, " + k + ")", x.first(20, 1023, k), plainFirst(20, 1023, k));
+            due.is("first(20, 1023, " + k + ")", fresh().first(20, 1023, k), plainFirst(20, 1023, k));
         }
     }
 
@@ -81,30 +86,30 @@ public final class HeapTest {
         for (int heap = 1; heap < (1 << 18) - 1; heap += 4099) {
             int want = plainLeast(18, heap);
             nones += want == CountedOut.NONE ? 1 : 0;
-            due.is("least(18, " + heap + ")", x.least(18, heap), want);
+            due.is("least(18, " + heap + ")", fresh().least(18, heap), want);
         }
         due.holds("some heap has no least count", nones > 0);
     }
 
     private static void theGreatestCount() {
-        due.is("least(20, what 10000 puts out)", x.least(20, gone(20, 10, 10000)), 10000);
-        due.is("least(20, what 10001 puts out)", x.least(20, gone(20, 10, 10001)), CountedOut.NONE);
+        due.is("least(20, what 10000 puts out)", fresh().least(20, gone(20, 10, 10000)), 10000);
+        due.is("least(20, what 10001 puts out)", fresh().least(20, gone(20, 10, 10001)), CountedOut.NONE);
     }
 
     private static void wrongNumbers() {
         for (int n : new int[] {1, 0, -1, 21, 32, 33, Integer.MIN_VALUE, Integer.MAX_VALUE}) {
-            due.is("first(" + n + ", 1, 1)", x.first(n, 1, 1), CountedOut.BAD);
-            due.is("least(" + n + ", 1)", x.least(n, 1), CountedOut.BAD);
+            due.is("first(" + n + ", 1, 1)", fresh().first(n, 1, 1), CountedOut.BAD);
+            due.is("least(" + n + ", 1)", fresh().least(n, 1), CountedOut.BAD);
         }
         for (int heap : new int[] {0, -1, 31, 32, 33, Integer.MIN_VALUE, Integer.MAX_VALUE}) {
-            due.is("first(5, " + heap + ", 1)", x.first(5, heap, 1), CountedOut.BAD);
-            due.is("least(5, " + heap + ")", x.least(5, heap), CountedOut.BAD);
+            due.is("first(5, " + heap + ", 1)", fresh().first(5, heap, 1), CountedOut.BAD);
+            due.is("least(5, " + heap + ")", fresh().least(5, heap), CountedOut.BAD);
         }
         for (int k : new int[] {0, -1, 10001, Integer.MIN_VALUE, Integer.MAX_VALUE}) {
-            due.is("first(5, 1, " + k + ")", x.first(5, 1, k), CountedOut.BAD);
+            due.is("first(5, 1, " + k + ")", fresh().first(5, 1, k), CountedOut.BAD);
         }
-        due.is("first(5, 16, 10000)", x.first(5, 16, 10000), 1);
-        due.is("first(20, all but 19, 1)", x.first(20, (1 << 19) - 1, 1), 1);
-        due.is("first(20, all, 1)", x.first(20, (1 << 20) - 1, 1), CountedOut.BAD);
+        due.is("first(5, 16, 10000)", fresh().first(5, 16, 10000), 1);
+        due.is("first(20, all but 19, 1)", fresh().first(20, (1 << 19) - 1, 1), 1);
+        due.is("first(20, all, 1)", fresh().first(20, (1 << 20) - 1, 1), CountedOut.BAD);
     }
 }

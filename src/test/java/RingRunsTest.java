@@ -2,8 +2,9 @@ import java.util.Random;
 
 /** Promises 1, 7 to 15 and 18: runs of calls, right and wrong ones, beside a plain ring. */
 public final class RingRunsTest {
-    private static final int RUNS = 400;
-    private static final int CALLS = 512;
+    private static final int RUNS = 1500;
+    // Two calls a step and 80 at the end stay below the 512 that an object is promised for.
+    private static final int STEPS = 215;
     private static final int[] FAR = {Integer.MIN_VALUE, -1000, -1, 100, 1000, Integer.MAX_VALUE};
     private static final Due due = new Due();
     private static final Random random = new Random(20261116);
@@ -12,9 +13,12 @@ public final class RingRunsTest {
         for (int run = 0; run < RUNS; run++) {
             CountedOut x = new CountedOut();
             PlainRing plain = new PlainRing();
-            for (int i = 0; i < CALLS; i++) {
-                call("run " + run + ", call " + i + ": ", x, plain);
+            for (int i = 0; i < STEPS; i++) {
+                String where = "run " + run + ", step " + i + ": ";
+                call(where, x, plain);
+                what(where + "behind it ", x, plain, random.nextInt(5));
             }
+            everyone("run " + run + ": ", x, plain);
         }
         due.end();
     }
@@ -36,9 +40,6 @@ public final class RingRunsTest {
             case 11 -> aboutOne(where, x, plain);
             case 12 -> told(where, x, plain);
             default -> due.is(where + "trace()", x.trace(), plain.trace());
-        }
-        for (int what = 0; what <= 4; what++) {
-            due.is(where + "told(" + what + ") behind it", x.told(what), plain.told(what));
         }
     }
 
@@ -91,6 +92,9 @@ public final class RingRunsTest {
         int person = about(0, 39);
         int what = about(0, 1);
         due.is(where + "about(" + person + ", " + what + ")", x.about(person, what), plain.about(person, what));
+    }
+
+    private static void everyone(String where, CountedOut x, PlainRing plain) {
         for (int p = 0; p < 40; p++) {
             due.is(where + "about(" + p + ", 0)", x.about(p, 0), plain.about(p, 0));
             due.is(where + "about(" + p + ", 1)", x.about(p, 1), plain.about(p, 1));
@@ -98,7 +102,10 @@ public final class RingRunsTest {
     }
 
     private static void told(String where, CountedOut x, PlainRing plain) {
-        int what = about(0, 4);
+        what(where, x, plain, about(0, 4));
+    }
+
+    private static void what(String where, CountedOut x, PlainRing plain, int what) {
         due.is(where + "told(" + what + ")", x.told(what), plain.told(what));
     }
 }
